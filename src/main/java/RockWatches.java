@@ -133,7 +133,7 @@ public final class RockWatches {
         if (history.size == 0) {
             return ILLEGAL_STATE;
         }
-        history.removeLatest();
+        history.makeLatestSpare();
         state.copyFrom(history.spare());
         return history.size;
     }
@@ -144,11 +144,7 @@ public final class RockWatches {
         if (!within(character, 1, 255)) {
             return INVALID_ARGUMENT;
         }
-        if (text.length >= LONGEST_TEXT) {
-            return CAPACITY_EXCEEDED;
-        }
-        text.add((char) character);
-        return text.length;
+        return text.add((char) character) ? text.length : CAPACITY_EXCEEDED;
     }
 
     public int clearText() {
@@ -159,13 +155,26 @@ public final class RockWatches {
 
     public int run() {
         prepare();
-        int answer = runText();
-        if (answer < 0) {
-            state.copyFrom(history.spare());
-        } else {
-            text.length = 0;
+        int commands = 0;
+        int failure = 0;
+        text.rewind();
+        while (failure == 0 && commands < LONGEST_TEXT && text.readToken()) {
+            int place = text.start;
+            int word = text.word();
+            if (!text.readRest(word)) {
+                failure = NO_PROGRAM - text.start;
+            } else if (obey(word) < 0) {
+                failure = NO_PROGRAM - place;
+            } else {
+                commands++;
+            }
         }
-        return conclude(answer);
+        if (failure < 0) {
+            state.copyFrom(history.spare());
+            return failure;
+        }
+        text.length = 0;
+        return conclude(commands);
     }
 
     // ---- looking
@@ -226,25 +235,13 @@ public final class RockWatches {
     }
 
     public int doneOn(int turn) {
-        if (!state.world.hasTurn(turn)) {
-            return INVALID_ARGUMENT;
-        }
         forecast.copyFrom(state.world);
         return forecast.passUntilDone(turn);
     }
 
     public int later(int keeper, int days, int what) {
-        if (!state.world.hasKeeper(keeper) || !within(days, 0, MOST_DAYS_AT_ONCE) || !within(what, 0, 6)) {
-            return INVALID_ARGUMENT;
-        }
-        if (state.world.today + days > LAST_DAY) {
-            return ILLEGAL_STATE;
-        }
         forecast.copyFrom(state.world);
-        if (days > 0) {
-            forecast.passDays(days);
-        }
-        return forecast.keeperPart(keeper, what);
+        return forecast.keeperPartBehind(keeper, days, what);
     }
 
     public int nextOut() {
@@ -270,29 +267,9 @@ public final class RockWatches {
         return answer;
     }
 
-    // ---- running the text
-
-    /** Runs the commands and returns their number, or the answer of a failure. */
-    private int runText() {
-        int commands = 0;
-        text.rewind();
-        boolean more = text.readToken();
-        while (more && commands < LONGEST_TEXT) {
-            int place = text.start;
-            int word = text.word();
-            if (!text.readRest(word)) {
-                return NO_PROGRAM - text.start;
-            }
-            if (obey(word, text.numbers) < 0) {
-                return NO_PROGRAM - place;
-            }
-            commands++;
-            more = text.readToken();
-        }
-        return commands;
-    }
-
-    private int obey(int word, int[] numbers) {
+    /** Does what a command of the text says, with the numbers behind its word. */
+    private int obey(int word) {
+        int[] numbers = text.numbers;
         switch (word) {
             case WORD_ROCK: return state.world.placeRock(numbers[0], numbers[1], numbers[2]);
             case WORD_KEEPER: return state.world.addKeeper(numbers[0]);
@@ -317,14 +294,6 @@ public final class RockWatches {
         int eaten;
         int lacking;
         int delivered;
-
-        void clear() {
-            amount = 0;
-            keep = 0;
-            eaten = 0;
-            lacking = 0;
-            delivered = 0;
-        }
 
         void copyFrom(Store other) {
             amount = other.amount;
@@ -361,7 +330,7 @@ public final class RockWatches {
         int swell;
         int posts;
         int doubledDays;
-        int lastDoubled;
+        int lastDoubled = NONE;
         final Store[] stores = new Store[STORES];
 
         Rock() {
@@ -374,11 +343,6 @@ public final class RockWatches {
             height = leastHeight;
             swell = greatestSwell;
             posts = postCount;
-            doubledDays = 0;
-            lastDoubled = NONE;
-            for (int store = 0; store < STORES; store++) {
-                stores[store].clear();
-            }
         }
 
         void copyFrom(Rock other) {
@@ -404,22 +368,12 @@ public final class RockWatches {
     /** A keeper with the accounts of the days. */
     private static final class Keeper {
         int rank;
-        int rock;
+        int rock = NONE;
         int owed;
         int daysOut;
         int doubledDays;
         int leaveDays;
         int idleDays;
-
-        void start(int firstRank) {
-            rank = firstRank;
-            rock = NONE;
-            owed = 0;
-            daysOut = 0;
-            doubledDays = 0;
-            leaveDays = 0;
-            idleDays = 0;
-        }
 
         void copyFrom(Keeper other) {
             rank = other.rank;
@@ -512,6 +466,7 @@ public final class RockWatches {
         int turnCount;
         final int[] tides = new int[TIDES];
         final int[] swells = new int[DAYS];
+        // Rocks and keepers are never removed, only copied with all the rest: those behind the counts are always new.
         final Rock[] rocks = new Rock[ROCKS];
         final Keeper[] keepers = new Keeper[KEEPERS];
         final Turn[] turns = new Turn[TURNS];
@@ -757,7 +712,7 @@ public final class RockWatches {
             if (keeperCount >= KEEPERS) {
                 return CAPACITY_EXCEEDED;
             }
-            keepers[keeperCount].start(rank);
+            keepers[keeperCount].rank = rank;
             keeperCount++;
             return keeperCount - 1;
         }
@@ -791,7 +746,7 @@ public final class RockWatches {
         }
 
         boolean isAt(int keeper, int rock) {
-            return keeper >= 0 && keeper < keeperCount && keepers[keeper].rock == rock;
+            return hasKeeper(keeper) && keepers[keeper].rock == rock;
         }
 
         void moveTo(int keeper, int rock) {
@@ -955,10 +910,23 @@ public final class RockWatches {
             return missed - missedBefore;
         }
 
+        int keeperPartBehind(int keeper, int days, int what) {
+            if (!hasKeeper(keeper) || !within(days, 0, MOST_DAYS_AT_ONCE) || !within(what, 0, 6)) {
+                return INVALID_ARGUMENT;
+            }
+            if (today + days > LAST_DAY) {
+                return ILLEGAL_STATE;
+            }
+            for (int day = 0; day < days; day++) {
+                passDays(1);
+            }
+            return keeperPart(keeper, what);
+        }
+
         /** Tells the day on which a turn is done. Only turns are gone through: stores and leave decide none of them. */
         int passUntilDone(int turn) {
             if (!hasTurn(turn)) {
-                return NONE;
+                return INVALID_ARGUMENT;
             }
             Turn watched = turns[turn];
             while (today < LAST_DAY && turnCount > 0) {
@@ -1096,7 +1064,7 @@ public final class RockWatches {
         }
 
         State spare() {
-            return states[(oldest + size) % PLACES];
+            return states[Math.floorMod(oldest + size, PLACES)];
         }
 
         void recordSpare() {
@@ -1107,11 +1075,8 @@ public final class RockWatches {
             }
         }
 
-        /** Makes the latest state the spare one. */
-        void removeLatest() {
-            if (size > 0) {
-                size--;
-            }
+        void makeLatestSpare() {
+            size--;
         }
     }
 
@@ -1123,15 +1088,17 @@ public final class RockWatches {
         int start;
         int end;
 
-        void add(char character) {
-            if (length < LONGEST_TEXT) {
-                characters[length] = character;
-                length++;
+        /** Adds a character if there is room, and tells whether there was. */
+        boolean add(char character) {
+            if (length >= LONGEST_TEXT) {
+                return false;
             }
+            characters[length] = character;
+            length++;
+            return true;
         }
 
         void rewind() {
-            start = 0;
             end = 0;
         }
 
@@ -1219,10 +1186,10 @@ public final class RockWatches {
 
         /** Reads the numbers behind a word and the ";"; at a token that is not allowed it stops and returns false. */
         boolean readRest(int word) {
-            if (word == NONE) {
+            int wanted = numbersBehind(word);
+            if (!within(wanted, 1, MOST_NUMBERS)) {
                 return false;
             }
-            int wanted = Math.min(numbersBehind(word), MOST_NUMBERS);
             for (int place = 0; place < wanted; place++) {
                 readToken();
                 numbers[place] = number();

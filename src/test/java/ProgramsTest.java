@@ -75,6 +75,7 @@ public final class ProgramsTest {
         Script.run("programs: other characters", """
                 program("Keeper 0;") = -1000 program("kEeper 0;") = -1000 program("keepeR 0;") = -1000 program("rock.1 1 1;") = -1004
                 program("rock 1,1,1;") = -1006 program("keeper -1;") = -1007 program("keeper 0:") = -1008 program("keeper 0;;") = -1009
+                program("keeperz 0;") = -1000 program("keepera 0;") = -1000 program("zkeeper 0;") = -1000 program("keeper 0z;") = -1008
                 program("keeper 0;{") = -1009 program("`keeper 0;") = -1000 program("keeper /;") = -1007 program("keeper :;") = -1007
                 count(2) = 0
                 """);

@@ -2,6 +2,8 @@ import java.lang.reflect.Method;
 import java.util.ArrayList;
 import java.util.Arrays;
 import java.util.List;
+import java.util.Set;
+import java.util.function.IntUnaryOperator;
 import java.util.regex.Matcher;
 import java.util.regex.Pattern;
 
@@ -13,13 +15,17 @@ import java.util.regex.Pattern;
 final class Script {
     private static final Pattern CALL = Pattern.compile("(\\w+)\\(((?:\"[^\"]*\"|[^)\"])*)\\)\\s*=\\s*(-?\\w+)");
     private static final int CALLS_OF_AN_OBJECT = 512;
+    private static final Set<String> ACTIONS = Set.of("setTide", "setSwell", "addRock", "setKeep", "come", "relieve", "change",
+            "bring", "cancel", "exchange", "pass", "take", "restore", "run", "program");
+    private static final int STATES_IN_THE_HISTORY = 9;
+    private static final int LENGTH_OF_THE_TEXT = 10;
     private static int checks = 0;
     private static int wrong = 0;
 
     private Script() {
     }
 
-    /** Checks every answer, and that the calls which answer an error code have changed nothing. */
+    /** Checks every answer, that calls which answer an error code have changed nothing, and that each action can be undone. */
     static void run(String name, String text) {
         List<String[]> calls = new ArrayList<>();
         Matcher matcher = CALL.matcher(text);
@@ -40,10 +46,36 @@ final class Script {
                 withoutErrors.play(call[0], call[1]);
             }
         }
-        String picture = all.picture();
-        String dueThen = withoutErrors.picture();
+        List<Integer> picture = all.picture();
+        List<Integer> dueThen = withoutErrors.picture();
         check(name + ": errors have changed the state\n  " + picture + "\n  due is\n  " + dueThen, picture.equals(dueThen));
         check(name + ": too many calls: " + all.calls, all.calls <= CALLS_OF_AN_OBJECT);
+        for (int call = 0; call < calls.size(); call++) {
+            if (ACTIONS.contains(calls.get(call)[0]) && number(calls.get(call)[2]) >= 0) {
+                checkUndo(name, calls, call);
+            }
+        }
+    }
+
+    /** An action that is undone at once leaves all as it was, but for the text and the number of states. */
+    private static void checkUndo(String name, List<String[]> calls, int action) {
+        Player before = new Player();
+        Player undone = new Player();
+        for (String[] call : calls.subList(0, action)) {
+            before.play(call[0], call[1]);
+            undone.play(call[0], call[1]);
+        }
+        undone.play(calls.get(action)[0], calls.get(action)[1]);
+        int states = undone.play("count", "" + STATES_IN_THE_HISTORY);
+        String what = name + ": undo() behind " + String.join(" ", calls.get(action));
+        check(what + " has a state", states >= 1 && undone.play("undo", "") == states - 1);
+        List<Integer> picture = undone.picture();
+        List<Integer> due = before.picture();
+        for (int part : new int[] {STATES_IN_THE_HISTORY, LENGTH_OF_THE_TEXT}) {
+            picture.set(part, 0);
+            due.set(part, 0);
+        }
+        check(what + " leaves\n  " + picture + "\n  due is\n  " + due, picture.equals(due));
     }
 
     static void check(String what, boolean holds) {
@@ -120,43 +152,37 @@ final class Script {
             }
         }
 
-        /** Most of what can be looked at; of the sea a part, to stay within the calls of an object. */
-        String picture() {
-            StringBuilder picture = new StringBuilder();
-            for (int what = 0; what <= 10; what++) {
-                look(picture, watches.count(what));
-            }
-            for (int rock = 0; rock < watches.count(1); rock++) {
-                for (int what = 0; what <= 6; what++) {
-                    look(picture, watches.rock(rock, what));
-                }
-                for (int store = 0; store < 3; store++) {
-                    for (int what = 0; what <= 5; what++) {
-                        look(picture, watches.store(rock, store, what));
-                    }
+        /** Most of what can be looked at, count() first; of the sea a part, to stay within the calls of an object. */
+        List<Integer> picture() {
+            List<Integer> picture = new ArrayList<>();
+            look(picture, 11, what -> watches.count(what));
+            for (int number = 0; number < picture.get(1); number++) {
+                int rock = number;
+                look(picture, 7, what -> watches.rock(rock, what));
+                for (int kind = 0; kind < 3; kind++) {
+                    int store = kind;
+                    look(picture, 6, what -> watches.store(rock, store, what));
                 }
             }
-            for (int keeper = 0; keeper < watches.count(2); keeper++) {
-                for (int what = 0; what <= 6; what++) {
-                    look(picture, watches.keeper(keeper, what));
-                }
+            for (int number = 0; number < picture.get(2); number++) {
+                int keeper = number;
+                look(picture, 7, what -> watches.keeper(keeper, what));
             }
-            for (int turn = 0; turn < watches.count(3); turn++) {
-                for (int what = 0; what <= 6; what++) {
-                    look(picture, watches.turn(turn, what));
-                }
+            for (int number = 0; number < picture.get(3); number++) {
+                int turn = number;
+                look(picture, 7, what -> watches.turn(turn, what));
             }
-            for (int day = 0; day < 14; day++) {
-                look(picture, watches.sea(day, 0));
-                look(picture, watches.sea(day, 1));
-            }
-            look(picture, watches.sea(199, 1));
-            return picture.toString();
+            look(picture, 14, day -> watches.sea(day, 0));
+            look(picture, 14, day -> watches.sea(day, 1));
+            look(picture, 1, end -> watches.sea(199, 1));
+            return picture;
         }
 
-        private void look(StringBuilder picture, int answer) {
-            calls++;
-            picture.append(answer).append(' ');
+        private void look(List<Integer> picture, int parts, IntUnaryOperator part) {
+            for (int what = 0; what < parts; what++) {
+                calls++;
+                picture.add(part.applyAsInt(what));
+            }
         }
     }
 }
